@@ -90,6 +90,10 @@ public final class FaceTest {
             names.add(line.substring(line.indexOf(' ') + 1, line.indexOf('(')));
         }
         Checks.due("names of the face", names.size(), FACE.length);
+        for (Method method : TableWar.class.getDeclaredMethods()) {
+            boolean isPublic = Modifier.isPublic(method.getModifiers());
+            Checks.due(method + " bears a name of the face", names.contains(method.getName()) ? 1 : 0, isPublic ? 1 : 0);
+        }
         for (Class<?> inside : TableWar.class.getDeclaredClasses()) {
             int set = inside.getModifiers();
             boolean isHidden = !Modifier.isPublic(set) && !Modifier.isProtected(set);

@@ -109,6 +109,13 @@ public final class TablePromisesTest {
         firstFault(war, "t45;f010;x000", 9);
         firstFault(war, "t45;f000;s000;g000;f000;s000;g000;", 33);
         firstFault(war, "t45;f000;s000;g000;f000;s000;g0000", 33);
+        Checks.write(war, 1, 0, Checks.codes(Checks.TEXT));
+        int[] endsOfThings = {9, 14, 19};
+        for (int n = 0; n < Checks.TEXT.length(); n++) {
+            if (n != endsOfThings[0] && n != endsOfThings[1] && n != endsOfThings[2]) {
+                Checks.due("the row goes on, the text ends at " + n, war.table(1, 0, 0, n), -100 - n);
+            }
+        }
         Checks.due("many(1) behind faults: the old table", war.many(1), 3);
         Checks.due("ofThing(2, 4): the old table", war.ofThing(2, 4), 4);
         Checks.due("land(0): the old table", war.land(0), 7);
@@ -135,6 +142,9 @@ public final class TablePromisesTest {
         Checks.due("acres(0) anew", war.acres(0), 4);
         Checks.due("trace() stays", war.trace(), 1);
         Checks.due("cell(0, 0, 0) stays", war.cell(0, 0, 0), 7);
+        Checks.due("a dinner at which one is eaten", Checks.dine(war, 3, 0, 2), 1);
+        Checks.lay(war, Checks.TEXT);
+        Checks.due("many(2) behind a dinner and anew", war.many(2), 0);
     }
 
     private static void promise3OfThing() {
